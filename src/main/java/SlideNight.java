@@ -1,5 +1,3 @@
-import java.util.Arrays;
-
 /**
  * An evening of slides, some of which are in wrongly. Words in capitals are those of the document.
  *
@@ -12,6 +10,7 @@ public final class SlideNight {
     private static final int SIDE = 5;
     private static final int SIGNS = 25;
     private static final int WAYS = 8;
+    private static final int ALL_WAYS = 255;
     private static final int MIRROR = 4;
     private static final int CORNERS = 4;
     private static final int LOOKERS = 8;
@@ -67,8 +66,8 @@ public final class SlideNight {
         kept = new State();
         inUse = new TrayText();
         spareTray = new TrayText();
-        lawReader = new LawReader();
         rules = new Law();
+        lawReader = new LawReader(rules.spare);
         night = new Evening();
         turnRow = new TurnRow();
         choice = new Choice();
@@ -319,7 +318,10 @@ public final class SlideNight {
 
     public int odds(int i, int way, int n, int what) {
         Slide slide = now.toldSlide(i);
-        if (slide == null || !isWay(way) || !isIn(what, 0, 1) || !isIn(n, 0, MAX_SHOWS) || 3 * n > tapeLength) {
+        if (slide == null || !isWay(way) || !isIn(what, 0, 1)) {
+            return NONE;
+        }
+        if (!isIn(n, 0, MAX_SHOWS) || 3 * n > tapeLength) {
             return NONE;
         }
         tapeLength = 0;
@@ -451,7 +453,7 @@ public final class SlideNight {
             return NONE;
         }
         choice.clear();
-        for (int i = 0; i < SLIDES; i++) {
+        for (int i = 0; i < SLIDES && choice.hasRoom(); i++) {
             Slide slide = now.toldSlide(i);
             if (slide != null && !slide.isRightBy(slide.way)) {
                 choice.add(i, rules.boxSeconds(slide), secondsToTurn(slide) * noticedTenths(slide));
@@ -563,7 +565,7 @@ public final class SlideNight {
             return NONE;
         }
         choice.clear();
-        for (int i = 0; i < SLIDES; i++) {
+        for (int i = 0; i < SLIDES && choice.hasRoom(); i++) {
             Slide slide = now.toldSlide(i);
             if (slide != null && inUse.has(i)) {
                 choice.add(i, rules.showSeconds(slide, slide.way, 0), slide.worth);
@@ -601,11 +603,11 @@ public final class SlideNight {
         int had = 0;
         for (int i = 0; i < SLIDES && had < HAND_SLIDES; i++) {
             Slide slide = now.toldSlide(i);
-            long all = slide == null ? 0 : rules.oftenOf(slide, (1 << WAYS) - 1);
-            if (all > 0) {
-                had++;
-                above = above * all + rules.oftenOf(slide, ~slide.alike) * below;
+            if (slide != null && rules.oftenOf(slide, ALL_WAYS) > 0) {
+                long all = rules.oftenOf(slide, ALL_WAYS);
+                above = above * all + rules.oftenOf(slide, ALL_WAYS ^ slide.alike) * below;
                 below *= all;
+                had++;
             }
         }
         return partOf(above, below, what == 0);
@@ -614,13 +616,19 @@ public final class SlideNight {
     public int putIn() {
         for (int i = 0; i < SLIDES; i++) {
             Slide slide = now.toldSlide(i);
-            int all = slide == null ? 0 : rules.oftenOf(slide, (1 << WAYS) - 1);
-            if (all > 0) {
-                now.x = nextDraw(now.x);
-                slide.way = wayOfPart(slide, now.x % all);
+            if (slide != null) {
+                putInByHand(slide);
             }
         }
         return now.wrongCount();
+    }
+
+    private void putInByHand(Slide slide) {
+        int all = rules.oftenOf(slide, ALL_WAYS);
+        if (all > 0) {
+            now.x = nextDraw(now.x);
+            slide.way = wayOfPart(slide, now.x % all);
+        }
     }
 
     private int wayOfPart(Slide slide, int part) {
@@ -1079,9 +1087,9 @@ public final class SlideNight {
         private int fault;
         private LawCode code;
 
-        LawReader() {
+        LawReader(LawCode target) {
             text = new int[0];
-            code = new LawCode();
+            code = target;
         }
 
         /** How many CLAUSES, or the FAULT. */
@@ -1669,8 +1677,8 @@ public final class SlideNight {
             if (allOften == 0) {
                 return;
             }
-            // Each set has WAY 0 in it: there no turn has been made.
-            for (int set = SETS - 1; set > 0; set -= 2) {
+            // Each set has WAY 0 in it, for before the first turn; more of them come first.
+            for (int set = ALL_WAYS; set > 0; set -= 2) {
                 open[set] = oftenNotRight(set);
                 for (int last = 0; last < WAYS; last++) {
                     if ((set >> last & 1) != 0) {
@@ -1768,8 +1776,12 @@ public final class SlideNight {
             size = 0;
         }
 
+        boolean hasRoom() {
+            return size < MANY;
+        }
+
         void add(int number, int takes, long gain) {
-            if (size < MANY) {
+            if (hasRoom()) {
                 numbers[size] = number;
                 seconds[size] = takes;
                 gains[size] = gain;
@@ -1807,10 +1819,9 @@ public final class SlideNight {
             for (int bits = 1; bits < 1 << size; bits++) {
                 // Counting on by one takes the low ones out and puts the next one in.
                 int next = 0;
-                while (next < size - 1 && (bits >> next & 1) == 0) {
+                for (; next < size - 1 && (bits >> next & 1) == 0; next++) {
                     takes -= seconds[next];
                     gain -= gains[next];
-                    next++;
                 }
                 takes += seconds[next];
                 gain += gains[next];
@@ -1898,7 +1909,9 @@ public final class SlideNight {
 
         int countAll() {
             int all = (1 << size) - 1;
-            Arrays.fill(waysFirst, 0, all + 1, 0);
+            for (int set = 1; set <= all; set++) {
+                waysFirst[set] = 0;
+            }
             waysFirst[0] = 1;
             for (int set = 0; set < all; set++) {
                 for (int k = 0; k < size && waysFirst[set] != 0; k++) {
@@ -1969,7 +1982,9 @@ public final class SlideNight {
         }
 
         private void countLowAhead() {
-            Arrays.fill(lowAhead, 0);
+            for (int k = 0; k < lowAhead.length; k++) {
+                lowAhead[k] = 0;
+            }
             int all = (1 << size) - 1;
             for (int set = 0; set < all; set++) {
                 for (int k = 0; k < size && waysFirst[set] != 0; k++) {
