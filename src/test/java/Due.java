@@ -83,7 +83,7 @@ final class Due {
     /** Alike by half a turn. */
     static final String HALF = "ab.....................ba";
     /** Alike left for right. */
-    static final String UPRIGHT = "..a.......bbb............";
+    static final String UPRIGHT = "..a...bbb................";
 
     /** Slides 0 to n - 1, none of which is alike by two WAYS. */
     static SlideNight withSlides(int n) {
