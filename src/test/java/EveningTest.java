@@ -308,6 +308,16 @@ public final class EveningTest {
             n.law(1);
             Due.feed(n, 1, 0);
             DUE.is("undone: clue", n.spilt(2, -1), 1);
+            Due.feed(n, 1, 0);
+            DUE.is("undone: clue", n.spilt(2, 0), 0);
+            Due.feed(n, 2, 0);
+            DUE.is("undone: no other clue", n.spilt(2, -1), 2);
+            Due.feed(n, "2,1");
+            n.tray(3);
+            DUE.is("undone: link", n.leftOut(1, 1), 1);
+            Due.feed(n, "2");
+            n.tray(1);
+            DUE.is("undone: link", n.leftOut(1, 1), 0);
             n.put(0, 6);
             n.evening();
             n.gone(2);

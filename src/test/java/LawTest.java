@@ -103,6 +103,11 @@ public final class LawTest {
         holds("1<2*3-4", true);
         holds("0-1<0", true);
         holds("65536*32768<0", true);
+        holds("1=1" + "&1=1".repeat(50), true);
+        holds("1=1" + "&1=1".repeat(49) + "&1=2", false);
+        holds("1=2" + "|1=2".repeat(49) + "|1=1", true);
+        holds("1=2" + "|1=2".repeat(50), false);
+        holds("1=2" + "|!1=1&1=1|(1=2)".repeat(13), false);
     }
 
     private static void refused() {
@@ -168,6 +173,15 @@ public final class LawTest {
         n.lamps(2);
         DUE.is("the first pops not, the second and third do", n.tried(1), 3);
         DUE.is("pops", n.tried(5), 2);
+        n.looker(0, 0, 0);
+        Due.law(n, "n10(1=1);p6-o(1=1);to(1=1);b3+o(1=1);w1+o(q=0);w2(1=1)");
+        DUE.is("o in p and t", n.leave(5, 0), 6);
+        Due.law(n, "n10(o=0);t2(o=0);b3+o(1=1);w1+o(q=0);w2(1=1)");
+        DUE.is("o in b", n.lightBox(99, 1), 3);
+        DUE.is("o in n and t", n.lightBox(99, 2), 12);
+        DUE.is("o in w", n.odds(5, 0, 0, 1), 14);
+        DUE.is("o in w", n.hand(1), 14);
+        DUE.is("o in t", n.toTurn(5, 20) > 0, true);
         // In w the WAY that is asked of, in t the turn.
         Due.law(n, "w1+q+10*m(1=1);tq+10*m(1=1)");
         for (int way = 0; way < 8; way++) {

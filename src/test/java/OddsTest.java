@@ -56,6 +56,8 @@ public final class OddsTest {
             DUE.is("odds: no such ones", n.odds(no[0], no[1], no[2], no[3]), -1);
             DUE.is("the tape stays", n.count(5), 20);
         }
+        Due.feed(n, 2, 2, '.');
+        DUE.is("nine are too many", n.odds(0, 0, 9, 0), -1);
         DUE.is("by none", n.odds(0, 0, 0, 0), 1);
         DUE.is("the tape is empty", n.count(5), 0);
     }
@@ -210,7 +212,7 @@ public final class OddsTest {
     /** Promise 29. */
     private static void lamp() {
         SlideNight n = new SlideNight();
-        for (int[] no : new int[][] {{-1, 1, 0}, {11, 1, 0}, {0, 0, 0}, {0, 16, 0}, {0, 1, -1}, {0, 1, 2}}) {
+        for (int[] no : new int[][] {{-1, 1, 0}, {11, 1, 0}, {11, 1, 1}, {0, 0, 0}, {0, 16, 0}, {0, 1, -1}, {0, 1, 2}}) {
             DUE.is("lamp: no such ones", n.lamp(no[0], no[1], no[2]), -1);
         }
         long[][] due = {{0, 15, 1, 1}, {10, 1, 0, 1}, {10, 15, 0, 1}, {5, 3, 1, 8}, {1, 2, 81, 100}, {4, 2, 9, 25},

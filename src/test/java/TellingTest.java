@@ -155,6 +155,9 @@ public final class TellingTest {
         DUE.is("LINKS", n.count(9), 1);
         Due.feed(n, 3, 2);
         DUE.is("the clue that is left", n.spilt(2, 0), 2);
+        Due.tray(n, "2,3");
+        Due.law(n, "s3(1=1);s4(i=2)");
+        DUE.is("the link that is left", n.leftOut(3, 1), 1);
     }
 
     /** Promises 7, 8 and 32. */
@@ -266,6 +269,9 @@ public final class TellingTest {
         trayFault("(1)", -1003);
         trayFault("(1)0", -1003);
         trayFault("(1)1", -1003);
+        trayFault("(1):", -1003);
+        trayFault("(1)9", 9);
+        trayFault("(1)2", 2);
         trayFault("(1)22", -1004);
         trayFault("(1)2(", -1004);
         trayFault("(1,)2", -1003);
