@@ -624,9 +624,10 @@ public final class SlideNight {
     }
 
     private void putInByHand(Slide slide) {
+        // X goes on without w, too: only the WAY that it is IN stays then.
+        now.x = nextDraw(now.x);
         int all = rules.oftenOf(slide, ALL_WAYS);
         if (all > 0) {
-            now.x = nextDraw(now.x);
             slide.way = wayOfPart(slide, now.x % all);
         }
     }

@@ -239,9 +239,16 @@ public final class EveningTest {
 
     /** Promise 31. */
     private static void puttingIn() {
-        SlideNight n = Due.withSlides(4);
-        DUE.is("without w", n.putIn(), 0);
+        SlideNight n = new SlideNight();
+        DUE.is("without SLIDES", n.putIn(), 0);
         DUE.is("X stays", n.count(6), 1);
+        n = Due.withSlides(4);
+        n.gone(2);
+        n.put(3, 6);
+        DUE.is("without w", n.putIn(), 1);
+        DUE.is("without w it stays", n.slideIs(3, 0), 6);
+        DUE.is("X goes on for each told SLIDE", n.count(6), draw(1, 3));
+        Due.slide(n, 2, Due.UNLIKE, 2, 0, 2);
         Due.law(n, "w0(i=1);w2(q=0);w3(m=1);w1(1=1)");
         // WAYS 0 to 7: 2 1 1 1 2 3 3 3, together 16.
         int[] parts = {0, 0, 1, 2, 3, 4, 4, 5, 5, 5, 6, 6, 6, 7, 7, 7};
@@ -250,13 +257,13 @@ public final class EveningTest {
         for (int seed = 0; seed < 200; seed += 7) {
             n.seed(seed);
             int first = parts[draw(seed, 1) % 16];
-            int second = parts[draw(seed, 2) % 16];
+            int second = parts[draw(seed, 3) % 16];
             DUE.is("how many are WRONG", n.putIn(), 1 + (first > 0 ? 1 : 0) + (second > 0 ? 1 : 0));
             DUE.is("IN", n.slideIs(0, 0), first);
             DUE.is("without w it stays", n.slideIs(1, 0), 5);
             DUE.is("IN", n.slideIs(2, 0), second);
-            DUE.is("IN, though it looks right", n.slideIs(3, 0), parts[draw(seed, 3) % 16]);
-            DUE.is("X", n.count(6), draw(seed, 3));
+            DUE.is("IN, though it looks right", n.slideIs(3, 0), parts[draw(seed, 4) % 16]);
+            DUE.is("X", n.count(6), draw(seed, 4));
         }
         n.put(0, 3);
         Due.law(n, "w99(q=0&m=0)");

@@ -1044,8 +1044,8 @@ final class NaiveNight {
             for (int w = 0; w < 8; w++) {
                 parts.addAll(Collections.nCopies(value('w', i, w, 0), w));
             }
+            now.draw();
             if (!parts.isEmpty()) {
-                now.draw();
                 told(i).way = parts.get(now.x % parts.size());
             }
         }
