@@ -4,13 +4,20 @@ import java.nio.charset.StandardCharsets;
 final class Due {
     private int asked;
     private int wrong;
+    private String sentence = "";
+
+    /** What comes next is for these words of the document, which must stand there. */
+    void by(String part, String words) {
+        sentence = part + ", '" + words + "': ";
+        is("the sentence stands there", Document.says(part, words), true);
+    }
 
     void is(String call, long got, long want) {
         asked++;
         if (got != want) {
             wrong++;
             if (wrong <= 40) {
-                System.out.println(call + " answered " + got + ", due is " + want);
+                System.out.println(sentence + call + " answered " + got + ", due is " + want);
             }
         }
     }
@@ -72,6 +79,21 @@ final class Due {
     static boolean slide(SlideNight night, int i, String picture, int kind, int maker, int worth) {
         feed(night, picture);
         return night.slide(i, kind, maker, worth);
+    }
+
+    /** X as it is so many DRAWS on. */
+    static int draw(int x, int times) {
+        int at = x;
+        for (int k = 0; k < times; k++) {
+            at = (25173 * at + 13849) % 65536;
+        }
+        return at;
+    }
+
+    /** Numbers beyond two bounds: the next ones, the outermost ones, and those that look alike in few bits. */
+    static int[] beyond(int least, int most) {
+        return new int[] {least - 1, most + 1, Integer.MIN_VALUE, Integer.MAX_VALUE, Integer.MIN_VALUE + most,
+            least + (1 << 16), least - (1 << 16), least + (1 << 30)};
     }
 
     /** No two WAYS of this one are ALIKE. */
