@@ -1,7 +1,10 @@
 import java.io.IOException;
 import java.nio.file.Files;
 import java.nio.file.Path;
+import java.util.ArrayList;
+import java.util.HashSet;
 import java.util.List;
+import java.util.Set;
 import java.util.regex.Matcher;
 import java.util.regex.Pattern;
 
@@ -24,6 +27,7 @@ public final class LanguageTest {
         DUE.is("static fields that are not final", count(code, "\\bstatic (?!final)\\w+ \\w+( =|;)"), 0);
         DUE.is("signs beyond 127", source.chars().filter(c -> c > 127).count(), 0);
         methods(Files.readAllLines(file));
+        names(code);
         DUE.end();
     }
 
@@ -34,6 +38,29 @@ public final class LanguageTest {
             found++;
         }
         return found;
+    }
+
+    /** The head of a method: what it is open to, its type, its name. */
+    private static final Pattern METHOD = Pattern.compile("(?m)^ +((?:(?:public|private|static|final) )*)"
+        + "(?!return|else|new)[\\w\\[\\]]+ (\\w+)\\([^;{]*\\) \\{");
+
+    /** Rule 1: no other method bears the name of a public one. */
+    private static void names(String code) {
+        Set<String> face = new HashSet<>();
+        List<String> own = new ArrayList<>();
+        Matcher m = METHOD.matcher(code);
+        while (m.find()) {
+            if (m.group(1).contains("public")) {
+                DUE.is("one public method is named " + m.group(2), face.add(m.group(2)), true);
+            } else {
+                own.add(m.group(2));
+            }
+        }
+        DUE.is("public methods", face.size(), 35);
+        DUE.is("methods of its own are found", own.size() > 50, true);
+        for (String name : own) {
+            DUE.is(name + " is a public one's name, too", face.contains(name), false);
+        }
     }
 
     private static void methods(List<String> lines) {
